@@ -27,6 +27,7 @@ public final class RefusedStones {
     private static final int CHANCE_LOSS = 5;
 
     private static final int TAPE_LETTERS = 80;
+    private static final char TAPE_END = 0;
     private static final int FIRST_FAULT = -20;
 
     private static final int SHEETS = 4;
@@ -41,9 +42,10 @@ public final class RefusedStones {
     private boolean isKept;
     private final Tape tape;
     private final Sheet[] sheets;
-    // What is foretold is played on these two, so that no call makes anything.
+    // What is foretold is played on these three, so that no call makes anything.
     private final Moment fore;
     private final Crowd guess;
+    private final Choice choice;
 
     public RefusedStones() {
         world = new World();
@@ -56,6 +58,7 @@ public final class RefusedStones {
         }
         fore = new Moment();
         guess = new Crowd();
+        choice = new Choice();
     }
 
     // ---- 1 travellers, arches
@@ -283,9 +286,9 @@ public final class RefusedStones {
         if (!isWithin(n, 1, MOST_AT_ONCE) || !isBelow(what, 3)) {
             return BAD;
         }
-        Choice choice = new Choice();
+        choice.clear();
         for (int listed = 0; listed < LISTS; listed++) {
-            weigh(choice, listed, listed, n);
+            weigh(listed, listed, n);
         }
         switch (what) {
             case 0:
@@ -316,8 +319,7 @@ public final class RefusedStones {
         for (int loss = MOST_STONES; loss >= 0; loss--) {
             fore.take(world.now);
             fore.loseAll(loss);
-            fore.passMany(world.crowd, n);
-            if (fore.fell == world.now.fell) {
+            if (nobodyFalls(n)) {
                 return loss;
             }
         }
@@ -361,7 +363,19 @@ public final class RefusedStones {
     private void foretell(int listed, int n) {
         fore.take(world.now);
         fore.listed = listed;
-        fore.passMany(world.crowd, n);
+        for (int d = 0; d < n; d++) {
+            fore.pass(world.crowd);
+        }
+    }
+
+    /** Whether the next n DAYS of what is foretold let nobody fall. */
+    private boolean nobodyFalls(int n) {
+        for (int d = 0; d < n; d++) {
+            if (fore.pass(world.crowd) != 0) {
+                return false;
+            }
+        }
+        return true;
     }
 
     private int firstHole(int listed) {
@@ -376,7 +390,7 @@ public final class RefusedStones {
         return NONE;
     }
 
-    private void weigh(Choice choice, int which, int listed, int n) {
+    private void weigh(int which, int listed, int n) {
         foretell(listed, n);
         choice.offer(which, fore.fell - world.now.fell, fore.over - world.now.over);
     }
@@ -387,10 +401,10 @@ public final class RefusedStones {
             return BAD;
         }
         int listed = world.now.listed;
-        Choice choice = new Choice();
+        choice.clear();
         for (int look = 0; look < LOOKS; look++) {
             if (isIn(look, listed) == isOn) {
-                weigh(choice, look, listed ^ (1 << look), n);
+                weigh(look, listed ^ (1 << look), n);
             }
         }
         return choice.which;
@@ -412,7 +426,7 @@ public final class RefusedStones {
                 fore.lose(a, CHANCE_LOSS);
             }
         }
-        return fore.pass(world.crowd) == 0;
+        return nobodyFalls(1);
     }
 
     private static int commonDivisor(int a, int b) {
@@ -795,12 +809,6 @@ public final class RefusedStones {
             return fallen;
         }
 
-        void passMany(Crowd crowd, int n) {
-            for (int d = 0; d < n; d++) {
-                pass(crowd);
-            }
-        }
-
         private void putIn(int given) {
             for (int g = 0; g < given; g++) {
                 int arch = weakest();
@@ -903,6 +911,10 @@ public final class RefusedStones {
         int overs;
 
         Choice() {
+            clear();
+        }
+
+        void clear() {
             which = NONE;
             falls = 0;
             overs = 0;
@@ -962,7 +974,7 @@ public final class RefusedStones {
             if (passes(';') && !readsCrowd(crowd)) {
                 return false;
             }
-            return isAtEnd();
+            return next() == TAPE_END;
         }
 
         private boolean readsHeaps(Moment told) {
@@ -981,7 +993,7 @@ public final class RefusedStones {
 
         /** Below 0, if none as told stands here. */
         private int number() {
-            skipBlanks();
+            next();
             int start = place;
             int number = 0;
             while (place < length && place < start + 2 && isWithin(letters[place], '0', '9')) {
@@ -997,29 +1009,26 @@ public final class RefusedStones {
 
         private boolean readsCrowd(Crowd crowd) {
             for (int t = 0; t < MOST_TRAVELLERS; t++) {
+                if (t > 0 && !passes(',')) {
+                    return true;
+                }
                 if (!readsTraveller(crowd)) {
                     return false;
-                }
-                if (t == MOST_TRAVELLERS - 1 || !passes(',')) {
-                    break;
                 }
             }
             return true;
         }
 
         private boolean readsTraveller(Crowd crowd) {
-            if (isAtEnd()) {
-                return false;
-            }
-            int kind = KIND_LETTERS.indexOf(letters[place]);
+            int kind = KIND_LETTERS.indexOf(next());
             if (kind < 0) {
                 return false;
             }
             place++;
-            if (isAtEnd() || !isWithin(letters[place], '1', '9')) {
+            int every = next() - '0';
+            if (!isWithin(every, 1, MOST_EVERY)) {
                 return false;
             }
-            int every = letters[place] - '0';
             place++;
             crowd.join(kind, risingLooks(), every);
             return true;
@@ -1027,32 +1036,28 @@ public final class RefusedStones {
 
         private int risingLooks() {
             int set = 0;
-            char least = 'a';
-            while (!isAtEnd() && isWithin(letters[place], least, 'f')) {
-                set |= 1 << (letters[place] - 'a');
-                least = (char) (letters[place] + 1);
-                place++;
+            for (int look = 0; look < LOOKS; look++) {
+                if (passes((char) ('a' + look))) {
+                    set |= 1 << look;
+                }
             }
             return set;
         }
 
         private boolean passes(char letter) {
-            if (isAtEnd() || letters[place] != letter) {
+            if (next() != letter) {
                 return false;
             }
             place++;
             return true;
         }
 
-        private boolean isAtEnd() {
-            skipBlanks();
-            return place >= length;
-        }
-
-        private void skipBlanks() {
+        /** The letter behind blanks, which the place is at then; TAPE_END, if there is none. */
+        private char next() {
             while (place < length && letters[place] == ' ') {
                 place++;
             }
+            return place < length ? letters[place] : TAPE_END;
         }
     }
 

@@ -149,6 +149,10 @@ final class ForetoldTest {
         // The one that falls is refused by d; by c another is, who would be over.
         Checks.due("fewest fall", Checks.built("2,2,2,2;w1c,c1d").more(1), 3);
         Checks.due("most over", Checks.built("9,9,9,9;w1ab").more(1), 2);
+        Checks.due("the first look", Checks.built("9,9,9,9;w1bcdef").more(1), 0);
+        RefusedStones y = Checks.built("9,9,9,9!abcde;w1f");
+        Checks.due("another asked ahead", y.less(1), 0);
+        Checks.due("by itself", y.more(1), 5);
         Checks.due("only those that are not on it", Checks.built("9,9,9,9!a;w1ab").more(1), 1);
     }
 
@@ -163,6 +167,12 @@ final class ForetoldTest {
         Checks.due("like ones: the first", Checks.built("9,9,9,9!cef;w1a").less(3), 2);
         Checks.due("fewest fall", Checks.built("2,2,2,2!cd;c1c,w1d").less(1), 3);
         Checks.due("most over", Checks.built("9,9,9,9!ab;w1b").less(1), 1);
+        Checks.due("the first look", Checks.built("9,9,9,9!abcdef;w1,w1a").less(1), 0);
+        RefusedStones y = Checks.built("9,9,9,9!a;w1a");
+        Checks.due("another asked ahead", y.wise(1, 0), 0);
+        Checks.due("by itself", y.less(1), 0);
+        y.list(0);
+        Checks.due("none, asked behind another", y.less(1), -4);
         Checks.due("only those that are on it", Checks.built("9,9,9,9!bf;w1a,w1f").less(1), 5);
     }
 

@@ -98,10 +98,12 @@ final class SheetsTest {
         // The others stay as they are.
         RefusedStones z = Checks.built("9,9,9,9;w1,c1");
         fill(z, 0, 0, 5);
+        Checks.due("every of the second", z.seen(1, 1, 0, 0, 0, 1, 1), 0);
         Checks.due("kinds of the first", z.seen(1, 0, 0, 0, 0, 1, 0), 0b00010);
         Checks.due("kinds of the second", z.seen(1, 1, 0, 0, 0, 1, 0), 0);
         fill(z, 0, 0, 6);
         Checks.due("kinds of the second", z.seen(1, 1, 0, 0, 0, 1, 0), 0b00010);
+        Checks.due("every of the second", z.seen(1, 1, 0, 0, 0, 1, 1), 0b1111111110);
         Checks.due("by the list that it is", Checks.built("9,9,9,9!a;w1a").seen(0, 0, 0, 0, 0, 1, 0), -11);
     }
 
@@ -156,6 +158,8 @@ final class SheetsTest {
         Checks.due("10 stones", x.lists(0, 3, 3, 5, 1, 0), 64);
         Checks.due("a new one", x.sheet(3, 3, 7), 7);
         Checks.due("has zeros", x.lists(0, 3, 3, 5, 1, 0), 0);
+        x.item(3, 3, 0, 9);
+        x.sheet(3, 3, 7);
         x.mend(0, 1);
         x.flood(40);
         Checks.due("has zeros", x.lists(0, 3, 3, 0, 7, 0), 64);

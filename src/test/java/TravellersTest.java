@@ -157,7 +157,13 @@ final class TravellersTest {
                 Checks.due("of(" + t + ", " + what + ")", x.of(t, what), told[t][what]);
             }
         }
-        x.days(5);
+        x.days(1);
+        x.mend(0, 40);
+        x.mend(1, 40);
+        x.days(4);
+        Checks.due("some were over", x.count(3) > 0);
+        Checks.due("some were refused", x.count(4) > 0);
+        Checks.due("some fell", x.count(5) > 0);
         x.seed(77);
         Checks.due("image()", x.image(), 1);
         x.sheet(1, 2, 3);
