@@ -626,6 +626,7 @@ public final class RefusedStones {
                 return arch % 2 == 0 ? carter : 0;
             case THIEF:
                 return arch == day % ARCHES ? beggar + 1 : beggar;
+            case WALKER:
             default:
                 return walker;
         }
@@ -645,6 +646,7 @@ public final class RefusedStones {
                 return 3 * carter;
             case THIEF:
                 return Math.max(0, beggar - 1);
+            case WALKER:
             default:
                 return walker;
         }

@@ -104,6 +104,9 @@ final class SheetsTest {
         fill(z, 0, 0, 6);
         Checks.due("kinds of the second", z.seen(1, 1, 0, 0, 0, 1, 0), 0b00010);
         Checks.due("every of the second", z.seen(1, 1, 0, 0, 0, 1, 1), 0b1111111110);
+        RefusedStones u = Checks.built("9,9,9,9;w1,c1");
+        fill(u, 0, 0, 6);
+        Checks.due("every, asked first", u.seen(1, 1, 0, 0, 0, 1, 1), 0b1111111110);
         Checks.due("by the list that it is", Checks.built("9,9,9,9!a;w1a").seen(0, 0, 0, 0, 0, 1, 0), -11);
     }
 
