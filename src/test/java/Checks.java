@@ -70,4 +70,11 @@ final class Checks {
             due(when + ": count(" + what + ")", x.count(what), want[what]);
         }
     }
+
+    /** FLOODS by c of 10 of a new object with the BRIDGE of the TEXT. */
+    static void dueChance(String text, int c, int above, int below) {
+        RefusedStones x = built(text);
+        due(text + ": floods(" + c + ", 0)", x.floods(c, 0), above);
+        due(text + ": floods(" + c + ", 1)", x.floods(c, 1), below);
+    }
 }

@@ -217,12 +217,6 @@ final class ForetoldTest {
         Checks.due("mended behind it", Checks.built("9,9,9,9!a;d1a,d1a,w1").bears(1), 40);
     }
 
-    private static void dueChance(String text, int c, int above, int below) {
-        RefusedStones x = Checks.built(text);
-        Checks.due(text + ": floods(" + c + ", 0)", x.floods(c, 0), above);
-        Checks.due(text + ": floods(" + c + ", 1)", x.floods(c, 1), below);
-    }
-
     private static void floods() {
         Checks.promise("25 floods");
         RefusedStones x = new RefusedStones();
@@ -230,20 +224,20 @@ final class ForetoldTest {
         for (int[] b : bad) {
             Checks.due("floods(" + b[0] + ", " + b[1] + ")", x.floods(b[0], b[1]), -1);
         }
-        dueChance("10,10,10,10", 3, 1, 1);
-        dueChance("6,9,9,9;w1", 3, 7, 10);
-        dueChance("7,9,9,9;w1", 3, 1, 1);
-        dueChance("6,6,9,9;w1", 3, 49, 100);
-        dueChance("6,6,6,9;w1", 3, 343, 1000);
-        dueChance("6,6,6,6;w1", 3, 2401, 10000);
-        dueChance("6,6,6,6;w1", 5, 1, 16);
-        dueChance("6,6,6,6;w1", 0, 1, 1);
-        dueChance("6,6,6,6;w1", 10, 0, 1);
-        dueChance("6,6,6,6!b;w1b", 10, 1, 1);
-        dueChance("2,9,9,3;w1", 1, 81, 100);
-        dueChance("1,9,9,9;w1", 5, 0, 1);
-        dueChance("40,5,40,40;d1", 4, 3, 5);
-        dueChance("40,5,40,40;d1,c2", 4, 3, 5);
+        Checks.dueChance("10,10,10,10", 3, 1, 1);
+        Checks.dueChance("6,9,9,9;w1", 3, 7, 10);
+        Checks.dueChance("7,9,9,9;w1", 3, 1, 1);
+        Checks.dueChance("6,6,9,9;w1", 3, 49, 100);
+        Checks.dueChance("6,6,6,9;w1", 3, 343, 1000);
+        Checks.dueChance("6,6,6,6;w1", 3, 2401, 10000);
+        Checks.dueChance("6,6,6,6;w1", 5, 1, 16);
+        Checks.dueChance("6,6,6,6;w1", 0, 1, 1);
+        Checks.dueChance("6,6,6,6;w1", 10, 0, 1);
+        Checks.dueChance("6,6,6,6!b;w1b", 10, 1, 1);
+        Checks.dueChance("2,9,9,3;w1", 1, 81, 100);
+        Checks.dueChance("1,9,9,9;w1", 5, 0, 1);
+        Checks.dueChance("40,5,40,40;d1", 4, 3, 5);
+        Checks.dueChance("40,5,40,40;d1,c2", 4, 3, 5);
     }
 
     private static void image() {

@@ -29,10 +29,6 @@ final class SheetEdgesTest {
         Checks.end();
     }
 
-    private static void edge(String sentence) {
-        Checks.promise(sentence);
-    }
-
     private static void fill(RefusedStones x, int sheet, int lane, long... items) {
         Checks.due("sheet", x.sheet(sheet, lane, items.length), items.length);
         for (int i = 0; i < items.length; i++) {
@@ -49,7 +45,7 @@ final class SheetEdgesTest {
     }
 
     private static void dueIndexes(String name, int most, Taking taking) {
-        edge(name + ": INDEX: i below 0, or fewer than n items from i on");
+        Checks.promise(name + ": INDEX: i below 0, or fewer than n items from i on");
         int[] sizes = {1, 2, 7, 8, 23, 24};
         for (int size : sizes) {
             RefusedStones x = Checks.built("9,9,9,9!b;w1b");
@@ -81,7 +77,7 @@ final class SheetEdgesTest {
     }
 
     private static void dueOrder(String name, Taking taking) {
-        edge(name + ": NULL, ahead of CAST, ahead of INDEX, each in all LANES");
+        Checks.promise(name + ": NULL, ahead of CAST, ahead of INDEX, each in all LANES");
         RefusedStones x = Checks.built("9,9,9,9;w1");
         for (int lane = 0; lane < 4; lane++) {
             Checks.due("nothing, lane " + lane, taking.by(x, 3, lane, 0, 1), -11);
@@ -91,7 +87,8 @@ final class SheetEdgesTest {
             x.sheet(3, own, 2);
             for (int lane = 0; lane < 4; lane++) {
                 Checks.due(own + " as " + lane, taking.by(x, 3, lane, 0, 1) < 0 ? -12 : 0, own == lane ? 0 : -12);
-                Checks.due(own + " as " + lane + ", no such item", taking.by(x, 3, lane, 2, 1), own == lane ? -13 : -12);
+                int due = own == lane ? -13 : -12;
+                Checks.due(own + " as " + lane + ", no such item", taking.by(x, 3, lane, 2, 1), due);
             }
         }
         x.sheet(3, 1, 0);
@@ -108,7 +105,7 @@ final class SheetEdgesTest {
     }
 
     private static void listsAnswers() {
-        edge("28 lists: all 64, the least 0; one, 63; none: 0, NONE");
+        Checks.promise("28 lists: all 64, the least 0; one, 63; none: 0, NONE");
         RefusedStones x = Checks.built("0,0,0,0;w1a,w1b,w1c,w1d,w1e,w1f");
         fill(x, 0, 0, 2, 3);
         // 2 2 1 1 only if all six are refused; 2 1 1 1, too, if the first one falls by the hole that is there.
@@ -123,7 +120,7 @@ final class SheetEdgesTest {
         Checks.due("all", y.lists(3, 1, 2, 0, 1, 0), 64);
         Checks.due("the least", y.lists(3, 1, 2, 0, 1, 1), 0);
 
-        edge("28 lists: a row of 1, of 8: behind each of the next n DAYS");
+        Checks.promise("28 lists: a row of 1, of 8: behind each of the next n DAYS");
         RefusedStones z = Checks.built("20,20,20,20!f;w1a,w2b");
         z.days(1);
         z.sheet(0, 0, 9);
@@ -140,7 +137,7 @@ final class SheetEdgesTest {
     }
 
     private static void listsOfAnyItem() {
-        edge("28 lists: items are taken with their sign, in all LANES");
+        Checks.promise("28 lists: items are taken with their sign, in all LANES");
         long[] wide = {-1, 10 + (1 << 7), 10 + (1L << 15), 10 + (1L << 31), 10 + (1L << 32), Long.MIN_VALUE + 10};
         for (int lane = 0; lane < 4; lane++) {
             RefusedStones x = new RefusedStones();
@@ -160,7 +157,7 @@ final class SheetEdgesTest {
     }
 
     private static void seenAnswers() {
-        edge("29 seen: KINDS: all, one, none (0), likewise of who does not come");
+        Checks.promise("29 seen: KINDS: all, one, none (0), likewise of who does not come");
         RefusedStones x = Checks.built("9,9,9,9;w1,w2");
         fill(x, 0, 0, 9, 8, 7, 6, 5, 8, 7, 5);
         Checks.due("off arch 1, by 8 7: the first wears 0, the second 1", x.seen(1, 0, 0, 0, 1, 1, 0), 0b01000);
@@ -172,7 +169,7 @@ final class SheetEdgesTest {
         Checks.due("who does not come", x.seen(1, 1, 0, 0, 3, 1, 0), ALL_KINDS);
         Checks.due("he would have to", x.seen(1, 1, 0, 0, 2, 1, 0), 0);
 
-        edge("29 seen: KINDS of one who is REFUSED, by what he GIVES");
+        Checks.promise("29 seen: KINDS of one who is REFUSED, by what he GIVES");
         RefusedStones y = Checks.built("0,9,9,9!a;w1a");
         fill(y, 0, 0, 0, 1, 2, 6, 3);
         int[] byGift = {0b10000, 0b00101, 0b00010, 0b01000, 0};
@@ -183,7 +180,7 @@ final class SheetEdgesTest {
         y.flood(1);
         Checks.due("on an odd day a beggar gives nothing", y.seen(0, 0, 0, 0, 0, 1, 0), 0b10100);
 
-        edge("29 seen: he is of that KIND, that EVERY, from now on, all others as they are; nothing is changed");
+        Checks.promise("29 seen: he is of that KIND, that EVERY, all others as they are; nothing is changed");
         RefusedStones z = Checks.built("20,20,20,20!c;w1,c1a,t2c");
         z.days(3);
         String before = State.of(z);
@@ -200,7 +197,7 @@ final class SheetEdgesTest {
     }
 
     private static void seenEveries() {
-        edge("29 seen: EVERY: a set of bits 1 .. 9: all on DAY 0, none (0), one");
+        Checks.promise("29 seen: EVERY: a set of bits 1 .. 9: all on DAY 0, none (0), one");
         RefusedStones x = Checks.built("20,20,20,20;w1");
         fill(x, 0, 3, 19, 20, 18);
         Checks.due("all come on day 0", x.seen(0, 0, 0, 3, 0, 1, 1), ALL_EVERIES);
@@ -223,7 +220,7 @@ final class SheetEdgesTest {
     }
 
     private static void film() {
-        edge("30 film: behind 1, 2, .. n DAYS, an item each; n of 1 and 24");
+        Checks.promise("30 film: behind 1, 2, .. n DAYS, an item each; n of 1 and 24");
         RefusedStones x = Checks.built("40,40,40,40;w1");
         x.sheet(0, 1, 24);
         Checks.due("film", x.film(2, 24, 0, 1, 0), 24);
@@ -239,7 +236,7 @@ final class SheetEdgesTest {
             dueItems("in the midst, lane " + lane, y, 3, lane, 1, 30, 30, 39);
         }
 
-        edge("30 film: what is refused changes no item; nothing else is changed");
+        Checks.promise("30 film: what is refused changes no item; nothing else is changed");
         RefusedStones z = Checks.built("40,40,40,40;w1");
         fill(z, 0, 0, 5, 6, 7);
         Checks.due("beyond", z.film(0, 2, 0, 0, 2), -13);
@@ -250,7 +247,7 @@ final class SheetEdgesTest {
     }
 
     private static void sheet() {
-        edge("31 sheet: n of 0 and 24; BAD above; SIZE below 0; refused leaves the old row");
+        Checks.promise("31 sheet: n of 0 and 24; BAD above; SIZE below 0; refused leaves the old row");
         RefusedStones x = new RefusedStones();
         Checks.due("24", x.sheet(0, 3, 24), 24);
         Checks.due("0", x.sheet(1, 3, 0), 0);
@@ -264,7 +261,7 @@ final class SheetEdgesTest {
         Checks.due("nothing is there", x.drop(0), -11);
         Checks.due("the empty row", x.drop(1), 0);
 
-        edge("31 sheet: a new row: all its items are 0, whatever was there");
+        Checks.promise("31 sheet: a new row: all its items are 0, whatever was there");
         for (int lane = 0; lane < 4; lane++) {
             RefusedStones y = new RefusedStones();
             fill(y, 2, lane, 9, 9, 9);
@@ -276,7 +273,7 @@ final class SheetEdgesTest {
             dueItems("greater than the old one", y, 2, lane, 0, 0, 0, 0);
         }
 
-        edge("31 sheet: sheets 0 .. 3, each by itself");
+        Checks.promise("31 sheet: sheets 0 .. 3, each by itself");
         RefusedStones z = new RefusedStones();
         for (int s = 0; s < 4; s++) {
             fill(z, s, s, 10 * s, 10 * s + 1);
@@ -287,7 +284,7 @@ final class SheetEdgesTest {
     }
 
     private static void drop() {
-        edge("32 drop: how many items it had, 0 and 24, too; NULL: nothing is there");
+        Checks.promise("32 drop: how many items it had, 0 and 24, too; NULL: nothing is there");
         RefusedStones x = new RefusedStones();
         for (int size : new int[] {0, 1, 24}) {
             x.sheet(1, 2, size);
@@ -303,7 +300,7 @@ final class SheetEdgesTest {
     }
 
     private static void item() {
-        edge("33 item: becomes v, its lowest bits, with their sign");
+        Checks.promise("33 item: becomes v, its lowest bits, with their sign");
         int[] bits = {8, 16, 32, 64};
         for (int lane = 0; lane < 4; lane++) {
             RefusedStones x = new RefusedStones();
@@ -321,7 +318,7 @@ final class SheetEdgesTest {
             }
         }
 
-        edge("33 item: that one alone, the first and the last");
+        Checks.promise("33 item: that one alone, the first and the last");
         RefusedStones y = new RefusedStones();
         y.sheet(0, 0, 24);
         y.item(0, 0, 0, 7);
@@ -333,7 +330,7 @@ final class SheetEdgesTest {
     }
 
     private static void copyIndexes() {
-        edge("34 copy: INDEX where no item is taken, if i, j is below 0, or above how many there are");
+        Checks.promise("34 copy: INDEX where no item is taken, if i, j is below 0, or above how many there are");
         RefusedStones x = new RefusedStones();
         x.sheet(0, 0, 5);
         x.sheet(1, 0, 3);
@@ -348,7 +345,7 @@ final class SheetEdgesTest {
             Checks.due("no items, out", x.copy(c[0], c[1], c[2], c[3], 0), -13);
         }
 
-        edge("34 copy: INDEX (n below 0, too), by either of the two");
+        Checks.promise("34 copy: INDEX (n below 0, too), by either of the two");
         for (int n : new int[] {-1, -5, LOW}) {
             Checks.due("n " + n, x.copy(0, 0, 1, 0, n), -13);
             Checks.due("n " + n + ", from the end", x.copy(0, 5, 1, 3, n), -13);
@@ -365,7 +362,7 @@ final class SheetEdgesTest {
         Checks.due("far", x.copy(0, 1, 1, 1, HIGH), -13);
         Checks.due("far", x.copy(0, HIGH, 1, HIGH, HIGH), -13);
 
-        edge("34 copy: NULL (either), ahead of CAST: of unlike LANES, ahead of INDEX");
+        Checks.promise("34 copy: NULL (either), ahead of CAST: of unlike LANES, ahead of INDEX");
         x.drop(3);
         x.sheet(1, 1, 3);
         Checks.due("nothing to copy from", x.copy(3, -1, 0, -1, -1), -11);
@@ -377,7 +374,7 @@ final class SheetEdgesTest {
     }
 
     private static void copyMoves() {
-        edge("34 copy: to the same one, as if all were taken ahead");
+        Checks.promise("34 copy: to the same one, as if all were taken ahead");
         int[][] moves = {{0, 1, 5}, {1, 0, 5}, {0, 2, 4}, {2, 0, 4}, {0, 0, 6}, {3, 2, 3}, {5, 0, 1}, {0, 5, 1}};
         for (int[] m : moves) {
             RefusedStones x = new RefusedStones();
@@ -391,7 +388,7 @@ final class SheetEdgesTest {
             dueItems(m[2] + " from " + m[0] + " to " + m[1], x, 0, 0, want);
         }
 
-        edge("34 copy: to another one; the source and what lies beside stay; refused changes nothing");
+        Checks.promise("34 copy: to another one; the source and what lies beside stay; refused changes nothing");
         RefusedStones y = new RefusedStones();
         fill(y, 0, 2, 1, 2, 3, 4);
         fill(y, 1, 2, 11, 12, 13, 14, 15);
@@ -409,7 +406,7 @@ final class SheetEdgesTest {
         Checks.bridge(z, "40,0,0,0");
         Checks.due("the last", z.lists(0, 1, 0, 23, 1, 0), 64);
 
-        edge("34 copy: longs whole");
+        Checks.promise("34 copy: longs whole");
         RefusedStones u = new RefusedStones();
         fill(u, 0, 3, 10 + (1L << 40));
         fill(u, 1, 3, 10);

@@ -20,10 +20,6 @@ final class TextTest {
         Checks.end();
     }
 
-    private static void edge(String sentence) {
-        Checks.promise(sentence);
-    }
-
     private static void dueFault(String text, int place) {
         Checks.due("'" + text + "'", Checks.bridge(new RefusedStones(), text), -20 - place);
     }
@@ -33,7 +29,7 @@ final class TextTest {
     }
 
     private static void tape() {
-        edge("6 type: one letter more, 32 .. 126: how many it has; FULL: 80");
+        Checks.promise("6 type: one letter more, 32 .. 126: how many it has; FULL: 80");
         RefusedStones x = new RefusedStones();
         for (int k = 1; k <= 80; k++) {
             Checks.due("letter " + k, x.type(k % 2 == 0 ? 32 : 126), k);
@@ -43,7 +39,7 @@ final class TextTest {
         Checks.due("the fault is by the first of the 80", x.bridge(), -20);
         Checks.due("empty then", x.type(32), 1);
 
-        edge("6 type: BAD, FULL leave THE TAPE as it is");
+        Checks.promise("6 type: BAD, FULL leave THE TAPE as it is");
         RefusedStones y = new RefusedStones();
         for (char letter : "7,8,9,6".toCharArray()) {
             y.type(31);
@@ -57,7 +53,7 @@ final class TextTest {
         Checks.due("a TEXT of 80 letters", y.bridge(), 0);
         Checks.dueStones("a TEXT of 80 letters", y, 7, 8, 9, 6);
 
-        edge("7 bridge: the longest TEXT, behind blanks up to 80 letters");
+        Checks.promise("7 bridge: the longest TEXT, behind blanks up to 80 letters");
         String longest = "40,40,40,40!abcdef;w9abcdef,c9abcdef,b9abcdef,d9abcdef,t9abcdef,w9abcdef";
         RefusedStones z = Checks.built(" ".repeat(80 - longest.length()) + longest);
         Checks.dueCounts("the longest", z, 6, 0, 63, 0, 0, 0, 160, 0, 0);
@@ -83,7 +79,7 @@ final class TextTest {
     }
 
     private static void eachLetter() {
-        edge("7 bridge: each letter at each place of a TEXT: it can stand there, or is the FAULT's place");
+        Checks.promise("7 bridge: each letter at each place of a TEXT: it can stand there, or is the FAULT's place");
         dueNext("", DIGITS);
         dueNext("0", DIGITS + ",");
         dueNext("3", DIGITS + ",");
@@ -116,7 +112,7 @@ final class TextTest {
     }
 
     private static void heaps() {
-        edge("7 bridge: 4 numbers 0 .. 40, of 1 or 2 digits");
+        Checks.promise("7 bridge: 4 numbers 0 .. 40, of 1 or 2 digits");
         for (int number = 0; number <= 40; number++) {
             RefusedStones x = Checks.built(number + "," + (40 - number) + "," + number / 10 + number % 10 + ",0");
             Checks.dueStones("by " + number, x, number, 40 - number, number, 0);
@@ -124,7 +120,7 @@ final class TextTest {
         RefusedStones y = Checks.built("00,01,09,0");
         Checks.dueStones("0 ahead", y, 0, 1, 9, 0);
 
-        edge("7 bridge: 41 .. 99 are not as told, by each of the 4");
+        Checks.promise("7 bridge: 41 .. 99 are not as told, by each of the 4");
         for (int number = 41; number <= 99; number++) {
             dueFault(number + ",1,1,1", 0);
             dueFault("1," + number + ",1,1", 2);
@@ -132,7 +128,7 @@ final class TextTest {
             dueFault("1,1,1," + number, 6);
         }
 
-        edge("7 bridge: 4 numbers with , between; no fewer, no more");
+        Checks.promise("7 bridge: 4 numbers with , between; no fewer, no more");
         dueFault("1", 1);
         dueFault("1,1", 3);
         dueFault("1,1,1", 5);
@@ -146,7 +142,7 @@ final class TextTest {
     }
 
     private static void listed() {
-        edge("7 bridge: perhaps ! and letters a .. f, rising: THE LIST; else none");
+        Checks.promise("7 bridge: perhaps ! and letters a .. f, rising: THE LIST; else none");
         for (int look = 0; look < 6; look++) {
             Checks.due("look " + look, Checks.built("1,1,1,1!" + (char) ('a' + look)).count(2), 1 << look);
         }
@@ -158,7 +154,7 @@ final class TextTest {
         Checks.bridge(x, "1,1,1,1;w1");
         Checks.due("none", x.count(2), 0);
 
-        edge("7 bridge: a letter that is not above the one before can't stand there");
+        Checks.promise("7 bridge: a letter that is not above the one before can't stand there");
         for (char letter = 'a'; letter <= 'f'; letter++) {
             dueFault("1,1,1,1!f" + letter, 9);
             dueFault("1,1,1,1!" + letter + letter, 9);
@@ -171,7 +167,7 @@ final class TextTest {
         dueTaken("1,1,1,1!f;w1a,w1a", 2);
         dueTaken("1,1,1,1!f;w1f,w1a", 2);
 
-        edge("7 bridge: nor, behind !, anything but a letter a .. f");
+        Checks.promise("7 bridge: nor, behind !, anything but a letter a .. f");
         dueFault("1,1,1,1!", 8);
         dueFault("1,1,1,1!;w1", 8);
         dueFault("1,1,1,1! ;w1", 9);
@@ -191,7 +187,7 @@ final class TextTest {
     }
 
     private static void travellers() {
-        edge("7 bridge: perhaps ; and 1 to 6 TRAVELLERS with , between");
+        Checks.promise("7 bridge: perhaps ; and 1 to 6 TRAVELLERS with , between");
         StringBuilder text = new StringBuilder("1,1,1,1");
         dueTaken(text.toString(), 0);
         dueFault(text + ";", 8);
@@ -205,7 +201,7 @@ final class TextTest {
         dueFault("1,1,1,1;,w1", 8);
         dueFault("1,1,1,1;w1w1", 10);
 
-        edge("7 bridge: w c b d t, a digit 1 .. 9, then perhaps letters a .. f, rising");
+        Checks.promise("7 bridge: w c b d t, a digit 1 .. 9, then perhaps letters a .. f, rising");
         for (int kind = 0; kind < 5; kind++) {
             for (int every = 1; every <= 9; every++) {
                 RefusedStones x = Checks.built("1,1,1,1;" + KINDS.charAt(kind) + every + letters(7 * every));
@@ -229,7 +225,7 @@ final class TextTest {
     }
 
     private static void blanks() {
-        edge("7 bridge: blanks count for nothing, between all letters");
+        Checks.promise("7 bridge: blanks count for nothing, between all letters");
         StringBuilder wide = new StringBuilder();
         for (char letter : "1,2,3,4!ac;w1b,d2ce".toCharArray()) {
             wide.append("  ").append(letter);
@@ -240,14 +236,14 @@ final class TextTest {
         Checks.due("the second's looks", x.of(1, 1), 20);
         Checks.due("the second's every", x.of(1, 2), 2);
 
-        edge("7 bridge: blanks end a number");
+        Checks.promise("7 bridge: blanks end a number");
         dueFault("1 2,1,1,1", 2);
         dueFault("4  0,1,1,1", 3);
         dueFault("0 0", 2);
         dueFault("1,1,1,1 0", 8);
         dueFault("9 9", 2);
 
-        edge("7 bridge: the place is behind blanks");
+        Checks.promise("7 bridge: the place is behind blanks");
         dueFault("   x", 3);
         dueFault("  41", 2);
         dueFault("1,1,1,1!  g", 10);
@@ -256,7 +252,7 @@ final class TextTest {
     }
 
     private static void faultsOfNumbers() {
-        edge("7 bridge: a number not as told: the FAULT is at its first digit, whatever follows");
+        Checks.promise("7 bridge: a number not as told: the FAULT is at its first digit, whatever follows");
         dueFault("41", 0);
         dueFault("410", 0);
         dueFault("99x", 0);
@@ -264,7 +260,7 @@ final class TextTest {
         dueFault("1,1,1,417!", 6);
         dueFault("1,1, 41;", 5);
 
-        edge("7 bridge: else a third digit can't stand there");
+        Checks.promise("7 bridge: else a third digit can't stand there");
         dueFault("400", 2);
         dueFault("010", 2);
         dueFault("000,", 2);
@@ -272,7 +268,7 @@ final class TextTest {
         dueFault("1,1,1,401", 8);
         dueFault("1,1,1,4000", 8);
 
-        edge("7 bridge: no digit at all: the FAULT is at what stands there");
+        Checks.promise("7 bridge: no digit at all: the FAULT is at what stands there");
         dueFault("-1,1,1,1", 0);
         dueFault("+1", 0);
         dueFault("1,a", 2);
@@ -281,7 +277,7 @@ final class TextTest {
     }
 
     private static void faultsAtTheEnd() {
-        edge("7 bridge: the end: how many letters there are, 0 to 80");
+        Checks.promise("7 bridge: the end: how many letters there are, 0 to 80");
         dueFault("", 0);
         dueFault(" ", 1);
         dueFault("1,", 2);
@@ -298,7 +294,7 @@ final class TextTest {
     }
 
     private static void inPlaceOfAll() {
-        edge("7 bridge: in place of all; DAY 0, nothing counted, nothing to be UNDONE");
+        Checks.promise("7 bridge: in place of all; DAY 0, nothing counted, nothing to be UNDONE");
         RefusedStones x = Checks.built("1,40,40,40!a;w1a,w1,c2b,c3,w4,d9");
         x.days(9);
         x.mend(0, 40);
@@ -311,7 +307,7 @@ final class TextTest {
         Checks.due("no such one", x.of(0, 0), -1);
         Checks.due("nothing to be undone", x.undo(), -4);
 
-        edge("7 bridge: THE DRAW, the IMAGE, SHEETS stay");
+        Checks.promise("7 bridge: THE DRAW, the IMAGE, SHEETS stay");
         RefusedStones y = new RefusedStones();
         y.seed(31);
         y.list(7);
@@ -323,7 +319,7 @@ final class TextTest {
         Checks.due("the image", y.restore(), 1);
         Checks.dueCounts("the image", y, 0, 0, 7, 0, 0, 0, 40, 0, 1);
 
-        edge("7 bridge: THE TAPE is empty then");
+        Checks.promise("7 bridge: THE TAPE is empty then");
         RefusedStones z = Checks.built("1,2,3,4");
         Checks.due("by a bridge", z.type('5'), 1);
         Checks.due("a fault at the end", z.bridge(), -21);
@@ -342,7 +338,7 @@ final class TextTest {
     }
 
     private static void allElseStays() {
-        edge("7 bridge: a FAULT: all else stays");
+        Checks.promise("7 bridge: a FAULT: all else stays");
         String before = State.of(standing());
         String[] texts = {"", "x", "9,9,9,41", "9,9,9,9,", "9,9,9,9!", "9,9,9,9!ca", "9,9,9,9!c;", "9,9,9,9!c;w",
             "9,9,9,9!c;w3,", "9,9,9,9!c;w3,d0", "9,9,9,9!c;w3,d4ee", "9,9,9,9;w1,w1,w1,w1,w1,w1,w1"};
